@@ -141,7 +141,7 @@ public final class MirrorMaze {
         if (maze.kinds[field] == FREE) {
             return finding(NONE);
         }
-        if (!maze.isMirror(field)) {
+        if (!isMirrorKind(maze.kinds[field])) {
             return finding(KIND);
         }
         past.keep(maze);
@@ -558,10 +558,6 @@ public final class MirrorMaze {
             return SIDE * y + x;
         }
 
-        boolean isMirror(int field) {
-            return isMirrorKind(kinds[field]);
-        }
-
         boolean stopsRays(int field) {
             return kinds[field] == WALL || kinds[field] == DOOR && opens[field] == 0;
         }
@@ -576,7 +572,7 @@ public final class MirrorMaze {
 
         /** The WAY of a RAY that has come to a FIELD with a WAY; a HALF is as a MIRROR. */
         int wayOut(int field, int way) {
-            if (!isMirror(field)) {
+            if (!isMirrorKind(kinds[field])) {
                 return way;
             }
             return ofs[field] == 0 ? 3 - way : way ^ 1;
@@ -1016,14 +1012,17 @@ public final class MirrorMaze {
                 return;
             }
             int number = findMetTable();
-            if (number < 0) {
-                return;
+            if (number >= 0) {
+                tryBothLeans(number, set, depth + 1);
             }
+        }
+
+        private void tryBothLeans(int number, int set, int depth) {
             int field = tables[number];
             trial.kinds[field] = TABLE;
-            tryTurned(set, depth + 1);
+            tryTurned(set, depth);
             trial.leanOver(field);
-            tryTurned(set | 1 << number, depth + 1);
+            tryTurned(set | 1 << number, depth);
             trial.leanOver(field);
             trial.kinds[field] = WALL;
         }

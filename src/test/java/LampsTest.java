@@ -18,6 +18,7 @@ public final class LampsTest {
         opened();
         open();
         turns();
+        turnsOfAll();
         turn();
         Script.end("LampsTest");
     }
@@ -213,6 +214,15 @@ public final class LampsTest {
                 open = 0
                 all 4 = 3
                 """);
+        Script.run("promise 23: a door at field 0", """
+                thing 0 3 1 = 1
+                lamp 4 2 1 = 0
+                lit 0 = 2
+                bright 1 = 5
+                open = 1
+                at 0 2 = 1
+                all 4 = 1
+                """);
         Script.run("promise 23: only their own colour opens doors", """
                 lamp 0 0 0 = 0
                 thing 8 3 1 = 1
@@ -270,6 +280,47 @@ public final class LampsTest {
                 turns 0 35 = 3
                 turns 0 60 = NONE
                 turns 0 59 = 4
+                """);
+    }
+
+    private static void turnsOfAll() {
+        Script.run("promise 24: ten tables, stair by stair", """
+                lamp 0 0 0 = 0
+                thing 1 4 0 = 1
+                thing 10 4 0 = 2
+                thing 11 4 0 = 3
+                thing 20 4 0 = 4
+                thing 21 4 0 = 5
+                thing 30 4 0 = 6
+                thing 31 4 0 = 7
+                thing 40 4 0 = 8
+                thing 41 4 0 = 9
+                thing 50 4 0 = 10
+                turns 0 51 = 1023
+                turns 0 53 = 1023
+                turns 0 50 = 511
+                turns 0 49 = 511
+                turns 0 59 = NONE
+                turns 0 10 = 1
+                turns 0 18 = 7
+                turn 1023 = 10
+                turns 0 51 = 0
+                turns 0 49 = 512
+                turns 0 18 = 8
+                """);
+        Script.run("promise 24: a table at field 0, turns and a shut door", """
+                lamp 36 3 0 = 0
+                thing 0 4 1 = 1
+                thing 5 3 0 = 2
+                turns 0 1 = 1
+                turns 0 0 = 0
+                turns 0 5 = NONE
+                turns 0 8 = NONE
+                turn 1 = 1
+                opened false = 1
+                turns 0 8 = NONE
+                open = 1
+                turns 0 8 = 0
                 """);
     }
 

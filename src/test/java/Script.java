@@ -5,6 +5,7 @@ import java.util.Map;
 /**
  * Runs rows of calls on a new MirrorMaze and compares each answer with the one that is due.
  * A row is "call arguments = answer"; an answer may be a finding's name. Text behind # is left out.
+ * Behind the last row the maze must have counted all of these findings.
  */
 final class Script {
     private static final Map<String, Integer> FINDINGS = Map.of(
@@ -20,6 +21,7 @@ final class Script {
     static void run(String name, String text) {
         MirrorMaze maze = new MirrorMaze();
         int number = 0;
+        int findings = 0;
         for (String line : text.split("\n")) {
             String row = line.replaceAll("#.*", "").trim();
             if (!row.isEmpty()) {
@@ -28,9 +30,12 @@ final class Script {
                 if (sides.length != 2) {
                     throw new IllegalArgumentException("not a row: " + row);
                 }
-                due(name + ", row " + number, row, call(CALLS, maze, sides[0].trim()), answerOf(sides[1].trim()));
+                int answer = answerOf(sides[1].trim());
+                findings += answer < -99999 ? 1 : 0;
+                due(name + ", row " + number, row, call(CALLS, maze, sides[0].trim()), answer);
             }
         }
+        due(name, "all 5 behind the last row", maze.all(5), findings);
     }
 
     static void due(String where, String what, long got, long want) {

@@ -52,6 +52,9 @@ public final class WalksTest {
                 first 0 72 = 1
                 first 72 0 = 3
                 first 8 0 = 2
+                first 0 1 = 0
+                first 1 0 = 2
+                first 9 0 = 3
                 floor 3 3 = 0
                 thing 1 0 0 = 1
                 thing 10 2 0 = 2
@@ -61,6 +64,7 @@ public final class WalksTest {
                 first 1 0 = NONE
                 first 0 1 = NONE
                 first 10 10 = NONE
+                first 0 0 = NONE    # with a wall beside it
                 thing 19 4 0 = 3
                 first 0 2 = NONE
                 """);
