@@ -1,10 +1,13 @@
 import java.lang.reflect.Method;
+import java.util.ArrayList;
 import java.util.HashMap;
+import java.util.List;
 import java.util.Map;
 
 /**
  * Runs rows of calls on a new MirrorMaze and compares each answer with the one that is due.
- * A row is "call arguments = answer"; an answer may be a finding's name. Text behind # is left out.
+ * A row is "call arguments = answer"; an answer may be a finding's name. Rows are parted by lines or
+ * by ';', and text behind # is left out.
  * Behind the last row the maze must have counted all of these findings.
  */
 final class Script {
@@ -12,6 +15,8 @@ final class Script {
             "BEYOND", -100001, "MISSING", -100002, "SIZE", -100003, "KIND", -100004,
             "FULL", -100005, "NONE", -100006, "TAKEN", -100007);
     private static final Map<String, Method> CALLS = callsOf(MirrorMaze.class);
+    /** What an object answers behind these is free, so no test may ask it. */
+    static final int MOST_CALLS = 512;
     private static int rows = 0;
     private static int wrong = 0;
 
@@ -22,20 +27,34 @@ final class Script {
         MirrorMaze maze = new MirrorMaze();
         int number = 0;
         int findings = 0;
-        for (String line : text.split("\n")) {
-            String row = line.replaceAll("#.*", "").trim();
-            if (!row.isEmpty()) {
-                number++;
-                String[] sides = row.split("=");
-                if (sides.length != 2) {
-                    throw new IllegalArgumentException("not a row: " + row);
-                }
-                int answer = answerOf(sides[1].trim());
-                findings += answer < -99999 ? 1 : 0;
-                due(name + ", row " + number, row, call(CALLS, maze, sides[0].trim()), answer);
+        for (String row : rowsOf(text)) {
+            number++;
+            String[] sides = row.split("=");
+            if (sides.length != 2) {
+                throw new IllegalArgumentException("not a row: " + row);
             }
+            int answer = answerOf(sides[1].trim());
+            findings += answer < -99999 ? 1 : 0;
+            due(name + ", row " + number, row, call(CALLS, maze, sides[0].trim()), answer);
         }
         due(name, "all 5 behind the last row", maze.all(5), findings);
+        if (number >= MOST_CALLS) {
+            throw new IllegalArgumentException("too many calls: " + name);
+        }
+    }
+
+    static List<String> rowsOf(String text) {
+        List<String> list = new ArrayList<>();
+        for (String row : text.replaceAll("#[^\n]*", "").split("[\n;]")) {
+            if (!row.isBlank()) {
+                list.add(row.trim());
+            }
+        }
+        return list;
+    }
+
+    static int call(MirrorMaze maze, String text) {
+        return call(CALLS, maze, text);
     }
 
     static void due(String where, String what, long got, long want) {
@@ -81,7 +100,7 @@ final class Script {
         }
     }
 
-    private static int answerOf(String text) {
+    static int answerOf(String text) {
         Integer finding = FINDINGS.get(text);
         return finding != null ? finding : Integer.parseInt(text);
     }
