@@ -94,6 +94,10 @@ public final class FloorEdgesTest {
                 face 0 0 = 1; face 1 0 = 3; face 2 1 = 0; face 3 0 = BEYOND
                 out = 2; at 9 3 = -1
                 """);
+        Script.run("promise 2: LEAN, COLOUR and OPEN go with what stands beyond", """
+                thing 4 1 1 = 1; thing 22 3 2 = 2; lamp 18 0 2 = 0; open = 1; all 4 = 1; floor 4 9 = 1; all 4 = 0; floor 9 9 = 1
+                at 4 1 = 0; at 22 1 = 0; at 22 2 = 0; at 80 1 = 0; thing 22 3 2 = 1; at 22 2 = 0
+                """);
         Script.run("promise 2: nothing stands there, nothing goes", "floor 1 1 = 0; floor 9 9 = 0; all 1 = 0; all 2 = 0");
         Script.run("promise 2: THINGS and LAMPS are counted together", """
                 thing 0 0 0 = 1; floor 9 9 = 1; lamp 1 0 0 = 0; floor 9 9 = 2; thing 2 4 1 = 2; floor 9 9 = 3
@@ -204,7 +208,9 @@ public final class FloorEdgesTest {
         Edges.limits("promise 5: no such kind", "thing 0 2 0", "as 0 N", 0, 4);
         Script.run("promise 5: NONE, it is free", "as 0 0 = NONE; as 0 4 = NONE; lamp 0 0 0 = 0; as 0 0 = NONE");
         Script.run("promise 5: BEYOND is asked ahead of NONE", "as 0 5 = BEYOND; as 0 -1 = BEYOND; as 81 0 = BEYOND");
-        Script.run("promise 5: BEYOND is asked ahead of KIND", "thing 0 0 0 = 1; as 0 5 = BEYOND; as 0 4 = KIND; as 81 4 = BEYOND");
+        Script.run("promise 5: BEYOND is asked ahead of KIND", """
+                thing 0 0 0 = 1; as 0 5 = BEYOND; as 0 4 = KIND; as 81 4 = BEYOND
+                """);
         Script.run("promise 5: FIELD 0 and FIELD 80 are answered", "thing 0 0 0 = 1; as 0 0 = 0; thing 80 4 0 = 2; as 80 1 = 80");
         // what each kind is as: itself, and those that it is under
         String[] fits = {"0", "01", "012", "03", "014"};
